@@ -41,6 +41,11 @@ public final class CountTest {
         CHECK.due("the last class alone", x.count(5), 3);
         x.shot(11);
         CHECK.due("none", x.count(5), 1);
+        WhiteSlopes y = Check.winter(-5, 10, 27);
+        for (int klass = 1; klass < 12; klass++) {
+            y.shot(klass);
+        }
+        CHECK.due("the first class alone", y.count(5), 3);
     }
 
     private static void massIsKept() {

@@ -42,6 +42,12 @@ public final class LayersTest {
         CHECK.due("crust bears 3000", crust.layer(0, 0, 4), 428);
         WhiteSlopes fresh = Check.winter(-5, 10, 40);
         CHECK.due("new bears 400", fresh.layer(0, 0, 4), 100);
+        CHECK.due("no less, no more", Check.winter(-5, 10, 10).layer(0, 0, 4), 400);
+        CHECK.due("so for settled", Check.winter(-5, 10, 0, 0, 10).layer(0, 0, 4), 900);
+        WhiteSlopes thousand = Check.winter(1, 10);
+        thousand.warmth(0, -5);
+        Check.snowDays(thousand, 100);
+        CHECK.due("and for crust", thousand.layer(0, 0, 4), 300);
     }
 
     private static void indexIsCapped() {
@@ -121,6 +127,20 @@ public final class LayersTest {
         CHECK.due("is likely 0", edge300.told(0, 2), 0);
         WhiteSlopes below300 = Check.winter(-5, 10, 0, 0, 31);
         CHECK.due("index 290 is likely 1", below300.told(0, 2), 1);
+        WhiteSlopes drifted = drifted(new int[] {10}, 0, 4, 48);
+        CHECK.due("index 99", drifted.layer(0, 0, 4), 99);
+        CHECK.due("is likely 3", drifted.told(0, 2), 3);
+        WhiteSlopes drifted300 = drifted(new int[] {10, 0, 0}, 0, 9, 47);
+        CHECK.due("index 299", drifted300.layer(0, 0, 4), 299);
+        CHECK.due("is likely 1 too", drifted300.told(0, 2), 1);
+    }
+
+    /** Wind makes loads that are no whole tens. */
+    private static WhiteSlopes drifted(int[] amounts, int side, int force, int last) {
+        WhiteSlopes x = Check.winter(-5, amounts);
+        x.wind(side, force);
+        Check.snowDays(x, last);
+        return x;
     }
 
     private static void sizeEdges() {
@@ -132,6 +152,12 @@ public final class LayersTest {
         }
         WhiteSlopes y = Check.winter(-5, 60);
         CHECK.due("size without load", y.told(0, 3), 0);
+        WhiteSlopes below500 = drifted(new int[] {10}, 0, 7, 39);
+        CHECK.due("load 499", below500.layer(2, 0, 3), 499);
+        CHECK.due("is size 1", below500.told(2, 3), 1);
+        WhiteSlopes below200 = drifted(new int[] {10}, 0, 9, 31);
+        CHECK.due("load 199", below200.layer(0, 0, 3), 199);
+        CHECK.due("is size 0", below200.told(0, 3), 0);
     }
 
     private static void spreadAndDanger() {
@@ -149,6 +175,9 @@ public final class LayersTest {
         x.slide(2, 0);
         CHECK.due("one likely: none", x.told(3, 4), 3);
         CHECK.due("elsewhere spread", x.told(7, 4), 4);
+        x.slide(9, 0);
+        x.slide(10, 0);
+        CHECK.due("first and last side", x.told(8, 4), 4);
         spreadWithLikelyOne();
         WhiteSlopes large = Check.winter(-5, 10, 0, 0, 50);
         CHECK.due("settled under 500: likely 1", large.told(0, 2), 1);

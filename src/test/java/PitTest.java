@@ -127,11 +127,13 @@ public final class PitTest {
         x.go(1);
         CHECK.due("the last class is as near", x.matched(11), 0);
         CHECK.due("but later", x.nearest(), 10);
-        x.warmth(2, 1);
-        x.go(1);
-        x.snow(2, 1);
-        x.pit();
-        x.slide(10, 0);
-        CHECK.due("an empty pit is nearest to the first", x.nearest(), 0);
+        WhiteSlopes y = Check.winter(-5, 10, 20);
+        y.slide(6, 0);
+        y.slide(9, 0);
+        CHECK.due("an empty pit is nearest to fewest layers", y.nearest(), 6);
+        y.slide(1, 0);
+        CHECK.due("class 1", y.nearest(), 1);
+        y.slide(0, 0);
+        CHECK.due("class 0", y.nearest(), 0);
     }
 }

@@ -26,6 +26,11 @@ public final class SlidesTest {
         Check.snowDays(x, 5);
         CHECK.due("new snow on what is left", x.layer(5, 1, 1), 50);
         CHECK.due("of age 0", x.layer(5, 1, 2), 0);
+        WhiteSlopes y = Check.winter(1, 10, 10, 10);
+        y.warmth(0, -5);
+        y.slide(0, 0);
+        Check.snowDays(y, 5);
+        CHECK.due("new where crust was", y.layer(0, 1, 0), 0);
     }
 
     private static void slideRefused() {

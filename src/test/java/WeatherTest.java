@@ -77,6 +77,12 @@ public final class WeatherTest {
         x.go(1);
         CHECK.due("told 0 counts in the mean", x.told(8, 1), 90 + 40);
         CHECK.due("told 0 is no gap", x.told(0, 1), 80);
+        for (int height = 0; height < 3; height++) {
+            WhiteSlopes first = new WhiteSlopes();
+            first.snow(height, 5);
+            first.go(1);
+            CHECK.due("gaps at first, but for " + height, first.count(2), 12 * 50);
+        }
     }
 
     private static void snowRefused() {
@@ -212,6 +218,8 @@ public final class WeatherTest {
         x.wind(2, 9);
         x.go(1);
         CHECK.due("one of three", x.layer(0, 1, 1), 1);
+        CHECK.due("a load of one", x.layer(0, 0, 3), 1);
+        CHECK.due("has an index", x.layer(0, 0, 4), 999);
         x.slide(2, 0);
         x.wind(0, 9);
         x.go(1);
@@ -257,8 +265,11 @@ public final class WeatherTest {
         CHECK.due("ten still", x.told(0, 0), 10);
         CHECK.due("two are one", x.layer(0, 0, 1), 30);
         CHECK.due("the greater age", x.layer(0, 0, 2), 10);
-        CHECK.due("next one", x.layer(0, 1, 1), 30);
-        CHECK.due("top", x.layer(0, 9, 1), 110);
+        for (int k = 1; k < 10; k++) {
+            CHECK.due("mass of " + k, x.layer(0, k, 1), 10 * (k + 2));
+            CHECK.due("age of " + k, x.layer(0, k, 2), 9 - k);
+            CHECK.due("kind of " + k, x.layer(0, k, 0), k < 7 ? 2 : 0);
+        }
         WhiteSlopes y = Check.winter(-20, 10);
         y.warmth(0, 1);
         Check.snowDays(y, 10);
@@ -294,6 +305,12 @@ public final class WeatherTest {
         CHECK.due("light after the drift", z.layer(0, 0, 1), 256);
         CHECK.due("so weak", z.layer(0, 0, 0), 2);
         CHECK.due("heavy", z.layer(2, 0, 0), 1);
+        WhiteSlopes edge = new WhiteSlopes();
+        edge.warmth(0, -20);
+        edge.wind(0, 9);
+        Check.snowDays(edge, 22, 0, 0, 0);
+        CHECK.due("299 and", edge.layer(2, 0, 1), 299);
+        CHECK.due("weak", edge.layer(2, 0, 0), 2);
     }
 
     private static void weakOnesGrowStrong() {
@@ -323,6 +340,7 @@ public final class WeatherTest {
         y.go(1);
         CHECK.due("gone", y.told(0, 0), 0);
         CHECK.due("all melted", y.count(3), 120);
+        CHECK.due("no crust at 0", Check.winter(0, 10).layer(0, 0, 0), 0);
     }
 
     private static void lastDay() {
