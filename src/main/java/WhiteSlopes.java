@@ -83,7 +83,7 @@ public final class WhiteSlopes {
             case 0: return slope.kindOf(k);
             case 1: return slope.massOf(k);
             case 2: return slope.ageOf(k);
-            case 3: return slope.loadOf(k);
+            case 3: return slope.massAbove(k);
             case 4: return slope.indexOf(k);
             default: return NONE;
         }
@@ -340,15 +340,11 @@ public final class WhiteSlopes {
             return has(k) ? ages[k] : NONE;
         }
 
-        int loadOf(int k) {
-            return massAbove(k);
-        }
-
         int indexOf(int k) {
-            return indexUnder(k, massAbove(k));
+            return has(k) ? indexUnder(bearingOf(kinds[k], ages[k]), massAbove(k)) : NONE;
         }
 
-        /** NONE as the LAYER means the ground: all MASS. */
+        /** LOAD of a LAYER; NONE as the LAYER means the ground: all MASS. */
         int massAbove(int k) {
             return massBetween(k, layers);
         }
@@ -359,7 +355,7 @@ public final class WhiteSlopes {
             int least = 0;
             int load = 0;
             for (int k = Math.min(depth, layers) - 1; k >= 0; k--) {
-                int index = indexUnder(k, load);
+                int index = indexUnder(bearingOf(kinds[k], ages[k]), load);
                 if (index != NONE && (why == NONE || index < least)) {
                     why = k;
                     least = index;
@@ -371,10 +367,10 @@ public final class WhiteSlopes {
 
         int likelyWithin(int depth) {
             int why = whyWithin(depth);
-            if (why == NONE) {
+            if (!has(why)) {
                 return 0;
             }
-            int index = indexUnder(why, massBetween(why, depth));
+            int index = indexUnder(bearingOf(kinds[why], ages[why]), massBetween(why, depth));
             if (index < 100) {
                 return MOST_LIKELY;
             }
@@ -480,24 +476,25 @@ public final class WhiteSlopes {
 
         private int massBetween(int k, int depth) {
             int mass = 0;
-            for (int above = Math.max(k, NONE) + 1; above < depth && above < layers; above++) {
+            for (int above = Math.max(k + 1, 0); above < depth && above < layers; above++) {
                 mass += masses[above];
             }
             return mass;
         }
 
-        private int indexUnder(int k, int load) {
+        private static int indexUnder(int bearing, int load) {
             if (load <= 0) {
                 return NONE;
             }
-            return Math.min(GREATEST_INDEX, 100 * bearingOf(k) / load);
+            int index = 100 * bearing / load;
+            return index > GREATEST_INDEX ? GREATEST_INDEX : index;
         }
 
-        private int bearingOf(int k) {
-            switch (kindOf(k)) {
+        private static int bearingOf(int kind, int age) {
+            switch (kind) {
                 case NEW: return 400;
                 case SETTLED: return 900;
-                case WEAK: return 250 + 15 * ageOf(k);
+                case WEAK: return 250 + 15 * age;
                 case CRUST: return 3000;
                 default: return 0;
             }
