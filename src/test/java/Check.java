@@ -1,6 +1,7 @@
 /** Compares answers with the ones that are due, and ends a test with exit code 1 if one was not. */
 final class Check {
     private final String test;
+    private String during = "";
     private int wrong = 0;
     private int all = 0;
 
@@ -8,11 +9,16 @@ final class Check {
         this.test = test;
     }
 
+    /** What is looked at from now on, for what is printed. */
+    void during(String what) {
+        during = what.isEmpty() ? "" : what + ": ";
+    }
+
     void due(String call, long got, long want) {
         all++;
         if (got != want) {
             wrong++;
-            System.out.println(test + ": " + call + " answered " + got + ", due is " + want);
+            System.out.println(test + ": " + during + call + " answered " + got + ", due is " + want);
         }
     }
 
@@ -42,25 +48,5 @@ final class Check {
             x.snow(0, amount);
             x.go(1);
         }
-    }
-
-    /** All that can be asked without changing anything, as one text. */
-    static String state(WhiteSlopes x) {
-        StringBuilder text = new StringBuilder();
-        for (int klass = 0; klass < 12; klass++) {
-            for (int what = 0; what < 6; what++) {
-                text.append(x.told(klass, what)).append(' ');
-            }
-            for (int k = 0; k < 10; k++) {
-                for (int what = 0; what < 5; what++) {
-                    text.append(x.layer(klass, k, what)).append(' ');
-                }
-            }
-            text.append(x.matched(klass)).append('\n');
-        }
-        for (int what = 0; what < 8; what++) {
-            text.append(x.count(what)).append(' ').append(x.right(what)).append(' ');
-        }
-        return text.append(x.shut()).append(' ').append(x.shots()).append(' ').append(x.nearest()).toString();
     }
 }

@@ -51,7 +51,7 @@ public final class CountTest {
     private static void massIsKept() {
         WhiteSlopes x = Check.winter(3, 30, 1, 20, 200, 0, 40);
         x.warmth(0, -20);
-        for (int day = 0; day < 60; day++) {
+        for (int day = 0; day < 40; day++) {
             x.snow(day % 3, day * 7 % 41);
             x.wind(day % 4, day % 10);
             x.warmth(day % 3, day * 11 % 41 - 30);

@@ -91,7 +91,8 @@ public final class ModelTest {
             case 14, 15, 16 -> {
                 int k = pick(0, 9);
                 int what = pick(0, 4);
-                CHECK.due(at + "layer(" + c + ", " + k + ", " + what + ")", x.layer(c, k, what), model.layer(c, k, what));
+                String layer = at + "layer(" + c + ", " + k + ", " + what + ")";
+                CHECK.due(layer, x.layer(c, k, what), model.layer(c, k, what));
             }
             case 17, 18, 19 -> {
                 int what = pick(0, 5);
@@ -99,8 +100,9 @@ public final class ModelTest {
             }
             case 20 -> CHECK.due(at + "shut()", x.shut(), model.shut());
             case 21 -> {
-                noShotsHelp += x.shots() == -1 ? 1 : 0;
-                CHECK.due(at + "shots()", x.shots(), model.shots());
+                int shots = x.shots();
+                noShotsHelp += shots == -1 ? 1 : 0;
+                CHECK.due(at + "shots()", shots, model.shots());
             }
             case 22, 23 -> {
                 int mass = random.nextInt(10) == 0 ? pick(1, 9999) : pick(1, 400);

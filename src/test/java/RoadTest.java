@@ -8,7 +8,6 @@ public final class RoadTest {
         shutByLikelyAndSize();
         fewestShots();
         shotsThatDoNotHelp();
-        askingChangesNothing();
         CHECK.finish();
     }
 
@@ -101,15 +100,5 @@ public final class RoadTest {
         CHECK.due("another helps", x.shots(), 3);
         CHECK.due("the other", x.shot(4), 290);
         CHECK.due("open there", x.shut(), 5);
-    }
-
-    private static void askingChangesNothing() {
-        WhiteSlopes x = Check.winter(-20, 1, 29, 200, 200, 200);
-        x.path(0, 2);
-        x.path(4, 1);
-        String before = Check.state(x);
-        x.shut();
-        x.shots();
-        CHECK.due("asking changes nothing", before.equals(Check.state(x)), true);
     }
 }
