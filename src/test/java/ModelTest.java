@@ -14,6 +14,7 @@ public final class ModelTest {
     private static int cold;
     private static int heavy;
     private static int noShotsHelp = 0;
+    private static int lastDays = 0;
 
     public static void main(String[] args) {
         for (int run = 0; run < RUNS; run++) {
@@ -22,12 +23,23 @@ public final class ModelTest {
             model = new PlainModel();
             cold = random.nextInt(4);
             heavy = random.nextInt(4);
-            for (int call = 0; call < CALLS; call++) {
+            int calls = run % 4 == 0 ? goLate() : 0;
+            for (int call = calls; call < CALLS; call++) {
                 oneCall("run " + run + ", call " + call + ": ");
             }
+            lastDays += model.count(0) == 400 ? 1 : 0;
         }
         CHECK.due("some runs reach NONE of shots()", noShotsHelp > 0, true);
+        CHECK.due("some runs reach DAY 400", lastDays > RUNS / 5, true);
         CHECK.finish();
+    }
+
+    /** Many DAYS at once, so that the run comes to the last one; how many calls that took. */
+    private static int goLate() {
+        for (int call = 0; call < 11; call++) {
+            CHECK.due("go(30) at first", x.go(30), model.go(30));
+        }
+        return 11;
     }
 
     /** Mostly a value that can be, at times one that can't. */
