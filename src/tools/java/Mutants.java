@@ -41,7 +41,8 @@ public final class Mutants {
 
         String in(String text, String[] lines) {
             int line = (int) text.substring(0, from).chars().filter(sign -> sign == '\n').count();
-            return "line " + (line + 1) + ": " + lines[line].trim() + "   [" + text.substring(from, to) + " -> " + with + "]";
+            String change = text.substring(from, to) + " -> " + with;
+            return "line " + (line + 1) + ": " + lines[line].trim() + "   [" + change + "]";
         }
     }
 
